@@ -365,14 +365,6 @@ public final class AlbumHours {
         return slots == 0 ? NONE : 63 - Long.numberOfLeadingZeros(slots);
     }
 
-    private static boolean isSmall(int letter) {
-        return letter >= 'a' && letter <= 'z';
-    }
-
-    private static boolean isDigit(int letter) {
-        return letter >= '0' && letter <= '9';
-    }
-
     /** A word is held as one number, five bits a letter: so two words are alike if their numbers are. */
     private static int lengthened(int word, int letter) {
         return word << 5 | letter - 'a' + 1;
@@ -380,6 +372,8 @@ public final class AlbumHours {
 
     /** The letters that were written and are not yet done. */
     private static final class Text {
+        static final int END = 0, WORD = 1, NUMBER = 2, SIGN = 3;
+
         int many;
         private final int[] letters = new int[LETTERS];
 
@@ -400,6 +394,13 @@ public final class AlbumHours {
             return at >= 0 && at < many && at < LETTERS ? letters[at] : NONE;
         }
 
+        /** The kind of token that a letter belongs to; no letter is the end of the text. */
+        static int kindOf(int letter) {
+            if (letter == NONE) return END;
+            if (letter >= 'a' && letter <= 'z') return WORD;
+            return letter >= '0' && letter <= '9' ? NUMBER : SIGN;
+        }
+
         /** All letters but the blanks as one word; NONE if they are none. */
         int wholeWord() {
             int word = 0;
@@ -407,7 +408,7 @@ public final class AlbumHours {
             for (int at = 0; at < many; at++) {
                 int letter = letterAt(at);
                 if (letter == BLANK) continue;
-                if (!isSmall(letter) || length == WORD_LETTERS) return NONE;
+                if (kindOf(letter) != WORD || length == WORD_LETTERS) return NONE;
                 word = lengthened(word, letter);
                 length++;
             }
@@ -417,7 +418,6 @@ public final class AlbumHours {
 
     /** Reads the text, token by token, onto a draft of the album, which shows what may stand further on. */
     private static final class Reader {
-        private static final int END = 0, WORD = 1, NUMBER = 2, SIGN = 3;
         private static final int MOST_DIGITS = 3;
 
         final Album draft = new Album();
@@ -441,8 +441,8 @@ public final class AlbumHours {
             for (int i = 0; i < CLAUSES; i++) {
                 if (!readClause()) return start;
                 clauses++;
-                if (kind == END) return NONE;
-                if (kind != SIGN || text.letterAt(start) != ';') return start;
+                if (kind == Text.END) return NONE;
+                if (kind != Text.SIGN || text.letterAt(start) != ';') return start;
                 if (clauses < CLAUSES) step();
             }
             return start;
@@ -451,16 +451,10 @@ public final class AlbumHours {
         private void step() {
             start = end;
             for (int i = 0; i < LETTERS && text.letterAt(start) == BLANK; i++) start++;
-            kind = kindOf(text.letterAt(start));
-            end = kind == END ? start : start + 1;
-            if (kind != WORD && kind != NUMBER) return;
-            for (int i = 0; i < LETTERS && kindOf(text.letterAt(end)) == kind; i++) end++;
-        }
-
-        private static int kindOf(int letter) {
-            if (letter == NONE) return END;
-            if (isSmall(letter)) return WORD;
-            return isDigit(letter) ? NUMBER : SIGN;
+            kind = Text.kindOf(text.letterAt(start));
+            end = kind == Text.END ? start : start + 1;
+            if (kind != Text.WORD && kind != Text.NUMBER) return;
+            for (int i = 0; i < LETTERS && Text.kindOf(text.letterAt(end)) == kind; i++) end++;
         }
 
         private boolean readClause() {
@@ -474,7 +468,7 @@ public final class AlbumHours {
         }
 
         private boolean is(String word) {
-            if (kind != WORD || end - start != word.length()) return false;
+            if (kind != Text.WORD || end - start != word.length()) return false;
             for (int i = 0; i < word.length(); i++) {
                 if (text.letterAt(start + i) != word.charAt(i)) return false;
             }
@@ -501,7 +495,7 @@ public final class AlbumHours {
         private boolean readPicture() {
             if (draft.pictures >= PICTURES) return false;
             step();
-            if (kind != WORD || end - start > WORD_LETTERS) return false;
+            if (kind != Text.WORD || end - start > WORD_LETTERS) return false;
             int word = 0;
             for (int at = start; at < end; at++) word = lengthened(word, text.letterAt(at));
             if (draft.pictureNamed(word) != NONE) return false;
@@ -550,7 +544,7 @@ public final class AlbumHours {
         }
 
         private boolean readNumber(int least, int most) {
-            if (kind != NUMBER || end - start > MOST_DIGITS) return false;
+            if (kind != Text.NUMBER || end - start > MOST_DIGITS) return false;
             number = 0;
             for (int at = start; at < end; at++) number = 10 * number + text.letterAt(at) - '0';
             if (number < least || number > most) return false;
@@ -843,6 +837,7 @@ public final class AlbumHours {
         private final int[] earlier = new int[PICTURES];
         private final int[] there = new int[THINGS];
         private final int[] away = new int[THINGS];
+        private final int[] seen = new int[PICTURES];
 
         void read(Album album) {
             pictures = Math.min(album.pictures, PICTURES);
@@ -868,42 +863,47 @@ public final class AlbumHours {
 
         private void readWindow(Album album, Pieces pieces, int picture) {
             if (picture < 0 || picture >= PICTURES) return;
-            boolean pointed = pieces.numberOf(picture, POINT) != NONE;
-            boolean measured = pieces.numberOf(picture, LENGTH) != NONE;
+            int point = pieces.valueOf(picture, POINT);
+            int pointSlack = pieces.slackOf(picture, POINT);
+            int length = pieces.valueOf(picture, LENGTH);
+            int lengthSlack = pieces.slackOf(picture, LENGTH);
             windows[picture] = ALL_SLOTS;
-            if (!pointed && !measured) return;
+            if (pointSlack == NONE && lengthSlack == NONE) return;
             long window = 0;
             for (int slot = 0; slot < SLOTS; slot++) {
                 boolean fits = album.sun.isUp(slot)
-                        && (!pointed || isNear(pieces, picture, POINT, album.sun.pointAt(slot)))
-                        && (!measured || isNear(pieces, picture, LENGTH, album.sun.lengthAt(slot)));
+                        && isNear(album.sun.pointAt(slot), point, pointSlack)
+                        && isNear(album.sun.lengthAt(slot), length, lengthSlack);
                 if (fits) window |= 1L << slot;
             }
             windows[picture] = window;
         }
 
-        private static boolean isNear(Pieces pieces, int picture, int matter, int shown) {
-            return Math.abs(shown - pieces.valueOf(picture, matter)) <= pieces.slackOf(picture, matter);
+        /** Where there is no piece, there is no slack, and all is near. */
+        private static boolean isNear(int shown, int value, int slack) {
+            return slack == NONE || Math.abs(shown - value) <= slack;
         }
 
         private void readThings(Album album, Pieces pieces) {
             Arrays.fill(ahead, 0);
             Arrays.fill(there, 0);
             Arrays.fill(away, 0);
-            for (int thing = 0; thing < album.things && thing < THINGS; thing++) {
-                if (album.kindOf(thing) == WEARS) readWear(pieces, FIRST_THING + thing);
-                else readThing(pieces, thing, album.kindOf(thing));
+            for (int thing = 0; thing < album.things; thing++) {
+                for (int picture = 0; picture < PICTURES; picture++) {
+                    seen[picture] = pieces.valueOf(picture, FIRST_THING + thing);
+                }
+                if (album.kindOf(thing) == WEARS) readWear();
+                else readThing(thing, album.kindOf(thing));
             }
         }
 
-        private void readThing(Pieces pieces, int thing, int kind) {
+        private void readThing(int thing, int kind) {
             if (thing < 0 || thing >= THINGS) return;
             int without = 0;
             int with = 0;
-            for (int picture = 0; picture < pictures; picture++) {
-                int value = pieces.valueOf(picture, FIRST_THING + thing);
-                if (value == 0) without |= 1 << picture;
-                if (value == 1) with |= 1 << picture;
+            for (int picture = 0; picture < PICTURES; picture++) {
+                if (seen[picture] == 0) without |= 1 << picture;
+                if (seen[picture] == 1) with |= 1 << picture;
             }
             if (kind == COMES) putAhead(without, with);
             if (kind == GOES) putAhead(with, without);
@@ -912,12 +912,11 @@ public final class AlbumHours {
             away[thing] = without;
         }
 
-        private void readWear(Pieces pieces, int matter) {
-            for (int picture = 0; picture < pictures; picture++) {
-                int value = pieces.valueOf(picture, matter);
-                if (value == NONE) continue;
-                for (int other = 0; other < pictures; other++) {
-                    if (pieces.valueOf(other, matter) > value) putAhead(1 << picture, 1 << other);
+        private void readWear() {
+            for (int picture = 0; picture < PICTURES; picture++) {
+                for (int other = 0; other < PICTURES; other++) {
+                    boolean less = seen[other] != NONE && seen[other] < seen[picture];
+                    if (less) ahead[picture] |= 1 << other;
                 }
             }
         }
@@ -1232,7 +1231,7 @@ public final class AlbumHours {
             int toBeat = total;
             for (int picture = 0; picture < album.pictures; picture++) {
                 for (int thing = 0; thing < album.things; thing++) {
-                    if (!isOpen(album, picture, thing)) continue;
+                    if (!canNarrow(album, picture, thing)) continue;
                     int matter = FIRST_THING + thing;
                     int worth = ordersWithPiece(album, rules, picture, matter, 0);
                     // no better by 0 already: what it is by 1 cannot help
@@ -1246,8 +1245,12 @@ public final class AlbumHours {
             }
         }
 
-        private static boolean isOpen(Album album, int picture, int thing) {
-            return album.kindOf(thing) != WEARS && album.pieces.numberOf(picture, FIRST_THING + thing) == NONE;
+        /** By one of its two values a piece asks nothing more, unless both values of its thing were told already. */
+        private static boolean canNarrow(Album album, int picture, int thing) {
+            if (album.kindOf(thing) == WEARS) return false;
+            int told = album.picturesSeeing(thing, 0);
+            int there = album.picturesSeeing(thing, 1);
+            return !hasBit(told, picture) && there != 0 && there != told;
         }
     }
 

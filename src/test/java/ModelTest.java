@@ -20,10 +20,19 @@ public final class ModelTest {
     private final AlbumHours built = new AlbumHours();
     private final PlainAlbum plain = new PlainAlbum();
     private final StringBuilder story = new StringBuilder();
+    /** A day as it may have been: when each picture was taken, from when and until when each thing was there. */
+    private final int[] takenAt = new int[8];
+    private final int[] from = new int[8];
+    private final int[] until = new int[8];
     private int wrong;
 
     private ModelTest(long seed) {
         chance = new Random(seed);
+        for (int i = 0; i < 8; i++) {
+            takenAt[i] = 12 + chance.nextInt(25);
+            from[i] = 12 + chance.nextInt(20);
+            until[i] = from[i] + chance.nextInt(12);
+        }
     }
 
     public static void main(String[] args) {
@@ -38,8 +47,11 @@ public final class ModelTest {
     private int run(long seed) {
         boolean whole = seed % 25 == 0;
         tellText(firstText(whole ? 7 : 1 + chance.nextInt(5)));
+        int pieces = chance.nextInt(25);
+        for (int i = 0; i < pieces; i++) callPiece(new String[] {"point", "length", "see", "see", "see"}[chance.nextInt(5)]);
+        for (int i = 0; i < 3; i++) if (chance.nextInt(3) > 0) callStrip("strip");
         for (int i = 0; i < CALLS && wrong == 0; i++) {
-            if (chance.nextInt(12) == 0) tellText(someText());
+            if (chance.nextInt(40) == 0) tellText(someText());
             else call(someName());
         }
         if (wrong != 0) System.out.println("run " + seed + ":" + story);
@@ -72,10 +84,19 @@ public final class ModelTest {
         return number(0, 1 + plain.count(1));
     }
 
-    private int aValue(int matter) {
-        if (matter == 0) return number(0, 24);
-        if (matter == 1) return number(0, chance.nextInt(4) == 0 ? 999 : 160);
-        return chance.nextInt(3) == 0 ? number(0, 9) : number(0, 1);
+    /** Mostly what was so on the day as it may have been; now and then anything. */
+    private int aValue(int picture, int matter) {
+        boolean so = chance.nextInt(7) > 0 && picture >= 0 && picture < 7 && matter >= 0 && matter < 8;
+        if (matter == 0) return so && plain.sun(takenAt[picture], 0) >= 0 ? plain.sun(takenAt[picture], 0) : number(0, 24);
+        if (matter == 1) return so && plain.sun(takenAt[picture], 1) >= 0 ? plain.sun(takenAt[picture], 1) : number(0, 999);
+        if (!so) return chance.nextInt(3) == 0 ? number(0, 9) : number(0, 1);
+        int t = matter - 2;
+        switch (plain.thing(t, 0)) {
+            case 0: return takenAt[picture] >= from[t] ? 1 : 0;
+            case 1: return takenAt[picture] < from[t] ? 1 : 0;
+            case 2: return takenAt[picture] >= from[t] && takenAt[picture] <= until[t] ? 1 : 0;
+            default: return Math.min(9, takenAt[picture] / 4);
+        }
     }
 
     // ---- texts
@@ -85,7 +106,7 @@ public final class ModelTest {
         if (chance.nextInt(3) == 0) text.append("sun ").append(18 + chance.nextInt(13)).append(' ')
                 .append(1 + chance.nextInt(9)).append(' ').append(1 + chance.nextInt(40)).append(';');
         for (int p = 0; p < pictures; p++) text.append("picture ").append((char) ('a' + p)).append(p % 2 == 0 ? "" : "x").append(';');
-        int things = chance.nextInt(5);
+        int things = chance.nextInt(6);
         for (int t = 0; t < things; t++) text.append("thing ").append(aKind()).append(';');
         text.setLength(text.length() - 1);
         return text.toString();
@@ -121,12 +142,12 @@ public final class ModelTest {
 
     private String aClause() {
         switch (chance.nextInt(9)) {
-            case 0: return chance.nextInt(4) == 0 ? "album" : "sun" + blanks(0) + number(18, 30) + " " + number(1, 9) + " " + number(1, 40);
+            case 0: return chance.nextInt(8) == 0 ? "album" : "sun" + blanks(0) + number(18, 30) + " " + number(1, 9) + " " + number(1, 40);
             case 1: return "picture " + aWord();
             case 2: return "thing " + (chance.nextInt(12) == 0 ? aWord() : aKind());
             case 3: return "point" + blanks(0) + aPicture() + blanks(1) + number(0, 24) + " " + number(0, 9);
             case 4: return "long " + aPicture() + " " + (chance.nextInt(3) == 0 ? "0" : "") + number(0, 150) + blanks(1) + number(0, 99);
-            default: return "see" + blanks(1) + aPicture() + blanks(1) + number(0, plain.count(1) - 1) + " " + aValue(2);
+            default: return "see" + blanks(1) + aPicture() + blanks(1) + number(0, plain.count(1) - 1) + " " + number(0, 1);
         }
     }
 
@@ -202,9 +223,9 @@ public final class ModelTest {
     private void callPiece(String name) {
         int p = aPicture();
         int m = aMatter();
-        int v = aValue(name.equals("point") ? 0 : name.equals("length") ? 1 : name.equals("see") ? 2 : m);
-        int s = name.equals("length") ? number(0, 99) : number(0, 9);
         int t = number(0, plain.count(1) - 1);
+        int v = aValue(p, name.equals("point") ? 0 : name.equals("length") ? 1 : name.equals("see") ? 2 + t : m);
+        int s = name.equals("length") ? number(0, 99) : number(0, 9);
         String call = name + "(" + p + ", " + (name.equals("see") ? t : m) + ", " + v + "; " + s + ")";
         switch (name) {
             case "point": compare(call, built.point(p, v, s), plain.point(p, v, s)); break;

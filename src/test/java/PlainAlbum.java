@@ -15,6 +15,7 @@ final class PlainAlbum {
     record Token(int start, String letters) { }
 
     /** Where the text has its fault. */
+    @SuppressWarnings("serial")
     private static final class Fault extends RuntimeException {
         final int place;
 
