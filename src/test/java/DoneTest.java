@@ -8,6 +8,7 @@ public final class DoneTest {
         see();
         toldOtherwise();
         strike();
+        strikeOfAll();
         undo();
         undoEight();
         keepAndBack();
@@ -106,6 +107,28 @@ public final class DoneTest {
         Due.is("15: none left", x.told(0, 0), Due.NONE);
     }
 
+    private static void strikeOfAll() {
+        AlbumHours x = Due.of("picture a;picture b;picture c;picture d;picture e;picture f;picture g");
+        Due.tell(x, "thing comes;thing comes;thing goes;thing goes;thing passes;thing wears");
+        for (int p = 6; p >= 0; p--) {
+            for (int t = 5; t >= 0; t--) x.see(p, t, 1);
+            x.length(p, 5, 1);
+            x.point(p, 5, 1);
+        }
+        Due.is("14: all pieces that there can be", x.count(2), 56);
+        Due.is("15: the first of all", x.strike(6, 7), 55);
+        for (int k = 0; k < 55; k++) {
+            int p = x.told(k, 0);
+            int m = x.told(k, 1);
+            Due.is("15: the " + k + "th", p * 8 + m, 54 - k);
+            Due.is("15: its number", x.piece(p, m, 2), k);
+        }
+        Due.is("16: undone", x.undo(), 7);
+        Due.is("16: the last has its number again", x.piece(0, 0, 2), 55);
+        Due.is("15: the last of all", x.strike(0, 0), 55);
+        Due.is("15: the one ahead of it", x.piece(0, 1, 2), 54);
+    }
+
     private static void undo() {
         AlbumHours x = Due.of(THREE);
         Due.is("16: nothing yet", x.undo(), Due.NOT);
@@ -165,6 +188,11 @@ public final class DoneTest {
         Due.is("17: keep(1)", x.keep(1), 2);
         Due.is("18: orders by 1", x.orders(), 6);
         Due.is("18: back(0)", x.back(0), 2);
+        Due.is("18: orders by 0", x.orders(), 6);
+        x.see(0, 0, 0);
+        Due.is("18: orders by more", x.orders(), 3);
+        x.back(0);
+        Due.is("18: orders by 0 again", x.orders(), 6);
         Due.is("18: nothing can be undone", x.undo(), Due.NOT);
         Due.is("18: numbers as they were", x.piece(2, 5, 2) * 10 + x.piece(1, 2, 2), 1);
         Due.is("18: values as they were", x.piece(2, 5, 0) * 10 + x.piece(1, 2, 0), 41);

@@ -9,6 +9,7 @@ public final class DoubtsTest {
         knotOfMore();
         loose();
         looseOfTwoFaults();
+        looseOfWhatPasses();
         would();
         wouldInPlace();
         ask();
@@ -38,6 +39,8 @@ public final class DoubtsTest {
         knot(x, 8, 1);
         x.length(2, 0, 0);
         knot(x, 4, 1);
+        x.length(0, 0, 0);
+        knot(x, 1, 1);
         Due.is("25: knot(2), if there are no orders", x.knot(2), Due.OUTSIDE);
     }
 
@@ -101,6 +104,18 @@ public final class DoubtsTest {
         Due.is("26: the point of a picture, not its length", x.loose(-1) * 10 + x.loose(0), 10);
         x.strike(1, 0);
         Due.is("26: the length, too", x.loose(-1) * 100 + x.loose(0) * 10 + x.loose(1), 203);
+    }
+
+    private static void looseOfWhatPasses() {
+        AlbumHours x = Due.of("picture a;picture b;picture c;thing passes;see 0 0 1;see 1 0 0;see 2 0 1;point 0 4 0;point 1 5 0;point 2 6 0");
+        Due.is("26: each of the six is", x.loose(-1), 6);
+        x.point(2, 6, 9);
+        Due.is("26: there are orders", x.loose(-1), 0);
+        x.point(2, 9, 3);
+        Due.is("26: six again", x.loose(-1), 6);
+        x.see(2, 0, 0);
+        x.length(0, 0, 0);
+        Due.is("26: the length alone", x.loose(-1) * 10 + x.loose(0), 16);
     }
 
     private static void would() {
@@ -167,6 +182,8 @@ public final class DoubtsTest {
         Due.tell(x, "thing comes;thing wears;see 0 1 1;see 1 1 2");
         Due.is("28: nothing that it would help", x.ask(0), Due.NONE);
         Due.is("28: no worth", x.ask(1), Due.NONE);
+        Due.tell(x, "see 0 1 0;see 1 1 5");
+        Due.is("28: what wears is not asked", x.ask(0), Due.NONE);
         x.see(0, 0, 0);
         x.see(1, 0, 1);
         Due.is("28: now it does", x.ask(0), 22);

@@ -9,6 +9,7 @@ public final class OrdersTest {
         ordersByPassing();
         ordersBySlots();
         ordersOfSeven();
+        ordersOfAnotherAlbum();
         order();
         place();
         often();
@@ -107,6 +108,15 @@ public final class OrdersTest {
         Due.is("20: of the first four slots", x.orders(), 4 * 720);
     }
 
+    private static void ordersOfAnotherAlbum() {
+        AlbumHours x = Due.of("picture a;picture b;picture c;thing passes;see 0 0 1;see 1 0 0;see 2 0 1;point 0 1 0");
+        Due.is("20: of what is told", x.orders(), 4);
+        Due.tell(x, "album;picture a;picture b;picture c");
+        Due.is("20: of the same, of which nothing is told", x.orders(), 6);
+        Due.tell(x, "thing comes;thing goes");
+        Due.is("20: nor by what comes", x.orders(), 6);
+    }
+
     private static void order() {
         AlbumHours x = Due.of("picture a;picture b");
         Due.is("21: order(1, 0)", x.order(1, 0), 1);
@@ -127,10 +137,32 @@ public final class OrdersTest {
         Due.is("22: no picture", x.place(4, 0), Due.UNKNOWN);
         Due.is("22: what 2", x.place(0, 2), Due.OUTSIDE);
         Due.is("22: what -1", x.place(0, -1), Due.OUTSIDE);
+        placeBySlots();
+        placeOfTwoKinds();
         x.length(3, 0, 0);
         Due.is("22: no orders", x.place(0, 0), Due.NOT);
         Due.is("22: no orders, what 2", x.place(0, 2), Due.OUTSIDE);
         Due.is("22: no orders, no picture", x.place(-1, 0), Due.UNKNOWN);
+    }
+
+    private static void places(AlbumHours x, int[][] due) {
+        for (int p = 0; p < due.length; p++) {
+            for (int what = 0; what < 2; what++) Due.is("22: place(" + p + ", " + what + ")", x.place(p, what), due[p][what]);
+        }
+    }
+
+    private static void placeBySlots() {
+        AlbumHours x = Due.of("picture a;picture b;point 0 8 0;point 1 7 0");
+        places(x, new int[][] {{1, 1}, {0, 0}});
+    }
+
+    private static void placeOfTwoKinds() {
+        AlbumHours x = Due.of("picture a;picture b;picture c;thing passes;thing comes;see 0 0 1;see 1 0 0;see 2 0 1;see 1 1 0;see 2 1 1");
+        Due.orders(x, "102 120");
+        places(x, new int[][] {{1, 2}, {0, 0}, {1, 2}});
+        Due.is("24: the first slot is that of another one", x.left(0, 0) * 100 + x.left(0, 1), 4701);
+        Due.is("23: beside what passes", x.often(0, 2), 1);
+        Due.is("27: beside what passes", x.would(0, 0, 3), 2);
     }
 
     private static void often() {

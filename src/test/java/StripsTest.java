@@ -28,8 +28,9 @@ public final class StripsTest {
         Due.is("29: a strip of none is not missing", x.sum(0), 0);
         Due.is("29: it has no place", x.bits(0, 0), Due.INDEX);
         x.set(2, 7, 5);
+        x.set(2, 0, 5);
         Due.is("29: a new one", x.strip(2, 8), 8);
-        Due.is("29: of noughts", x.bits(2, 7), 0);
+        Due.is("29: of noughts", x.bits(2, 0) + x.bits(2, 7), 0);
         x.set(2, 1, 5);
         x.strip(2, 1);
         Due.is("29: of fewer places", x.bits(2, 1), Due.INDEX);

@@ -7,6 +7,7 @@ public final class ToldTest {
         write();
         erase();
         faultInTokens();
+        faultAtTheEnd();
         faultInBounds();
         faultByWhatIsTold();
         album();
@@ -64,6 +65,8 @@ public final class ToldTest {
         Due.fault(x, " albums", 1);
         Due.fault(x, " Album", 1);
         Due.fault(x, "alb um", 0);
+        Due.fault(x, "elbum", 0);
+        Due.fault(x, "albun", 0);
         Due.fault(x, "album;", 6);
         Due.fault(x, "album ; ", 8);
         Due.fault(x, "album;;album", 6);
@@ -93,6 +96,19 @@ public final class ToldTest {
         Due.fault(x, many + " ;album", 144);
         Due.fault(x, many + ";", 143);
         Due.fault(x, many + " album", 144);
+    }
+
+    private static void faultAtTheEnd() {
+        AlbumHours x = Due.of("picture a;thing wears");
+        String[] whole = {"sun 18 1 1", "point 0 1 1", "long 0 1 1", "see 0 0 1", "picture b", "thing goes"};
+        for (String text : whole) {
+            Due.fault(x, text, Due.NONE);
+            for (int end = text.lastIndexOf(' '); end > 0; end = text.lastIndexOf(' ', end - 1)) {
+                Due.fault(x, text.substring(0, end), end);
+                Due.fault(x, "album;" + text.substring(0, end) + "  ;", text.startsWith("point 0") && end > 5
+                        || text.startsWith("long 0") && end > 4 || text.startsWith("see 0") && end > 3 ? 6 + text.indexOf('0') : 8 + end);
+            }
+        }
     }
 
     private static void faultInBounds() {
@@ -204,8 +220,9 @@ public final class ToldTest {
 
     private static void find() {
         AlbumHours x = Due.of(FOUR);
-        String[] texts = {"a", "bb", " b b ", "ccc", "ddddd", "d d d d d", "b", "aa", "dddddd", "", "  ", "bb;", "B", "picture a"};
-        int[] due = {0, 1, 1, 2, 3, 3, -1, -1, -1, -1, -1, -1, -1, -1};
+        String[] texts = {"a", "bb", " b b ", "ccc", "ddddd", "d d d d d", "b", "aa", "dddddd", "", "  ", "bb;", "B", "picture a",
+            "" + (char) 162};
+        int[] due = {0, 1, 1, 2, 3, 3, -1, -1, -1, -1, -1, -1, -1, -1, -1};
         for (int i = 0; i < texts.length; i++) {
             x.erase();
             Due.write(x, texts[i]);
