@@ -192,6 +192,11 @@ public final class OrdersTest {
         x.point(1, 7, 0);
         int[] none = {0, Due.NONE, Due.NONE};
         for (int what = 0; what < 3; what++) Due.is("24: no orders, what " + what, x.left(0, what), none[what]);
+        x.strike(0, 0);
+        x.strike(1, 0);
+        Due.is("24: all but the last", x.left(0, 0) * 10000 + x.left(0, 1) * 100 + x.left(0, 2), 470046);
+        x.point(1, 5, 0);
+        Due.is("24: all ahead of the other's", x.left(0, 0) * 10000 + x.left(0, 1) * 100 + x.left(0, 2), 170016);
         Due.tell(x, "album;picture a");
         int[] all = {48, 0, 47};
         for (int what = 0; what < 3; what++) Due.is("24: one alone, what " + what, x.left(0, what), all[what]);
