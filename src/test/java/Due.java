@@ -32,17 +32,26 @@ final class Due {
         if (answered < 1) is("album() of '" + text + "' with its fault at " + x.fault(), answered, 1);
     }
 
-    static AlbumHours of(String text) {
+    /** A new object to which these texts were told; an empty one tells nothing. */
+    static AlbumHours of(String... texts) {
         AlbumHours x = new AlbumHours();
-        tell(x, text);
+        for (String text : texts) if (!text.isEmpty()) tell(x, text);
         return x;
     }
 
-    static void fault(AlbumHours x, String text, int due) {
-        x.erase();
+    /** Where the fault of a text is, behind another one that was told; on an object of its own, for one answers 512 calls only. */
+    static void fault(String told, String text, int due) {
+        AlbumHours x = of(told);
         write(x, text);
-        is("fault() of '" + text + "'", x.fault(), due);
-        if (due != NONE) is("album() of '" + text + "'", x.album(), NOT);
+        is("fault() of '" + text + "' behind '" + told + "'", x.fault(), due);
+        if (due != NONE) is("album() of '" + text + "' behind '" + told + "'", x.album(), NOT);
+    }
+
+    /** The row of numbers as one text, to be compared with what is due. */
+    static void row(String what, String due, long... answers) {
+        StringBuilder found = new StringBuilder();
+        for (long answer : answers) found.append(found.length() == 0 ? "" : " ").append(answer);
+        is(what + ", answers '" + found + "', due are '" + due + "': alike", found.toString().equals(due) ? 1 : 0, 1);
     }
 
     /** All orders as one text, 021 120 say. */

@@ -57,112 +57,115 @@ public final class ToldTest {
     }
 
     private static void faultInTokens() {
-        AlbumHours x = new AlbumHours();
-        Due.fault(x, "", 0);
-        Due.fault(x, "   ", 3);
-        Due.fault(x, "album", Due.NONE);
-        Due.fault(x, "  album  ", Due.NONE);
-        Due.fault(x, " albums", 1);
-        Due.fault(x, " Album", 1);
-        Due.fault(x, "alb um", 0);
-        Due.fault(x, "elbum", 0);
-        Due.fault(x, "albun", 0);
-        Due.fault(x, "album;", 6);
-        Due.fault(x, "album ; ", 8);
-        Due.fault(x, "album;;album", 6);
-        Due.fault(x, ";album", 0);
-        Due.fault(x, "album album", 6);
-        Due.fault(x, "album\t", 5);
-        Due.fault(x, "album 7", 6);
-        Due.fault(x, "album" + (char) 0, 5);
-        Due.fault(x, "sun18 1 1;picture a;point0 0 0;point 0 24 9;long 0 000 099", Due.NONE);
-        Due.fault(x, "sun 18 1", 8);
-        Due.fault(x, "sun a 1 1", 4);
-        Due.fault(x, "sun 18 1 1 1", 11);
-        Due.fault(x, "sun 18,1 1", 6);
-        Due.fault(x, "picture a7", 9);
-        Due.fault(x, "picture 7", 8);
-        Due.fault(x, "picture A", 8);
-        Due.fault(x, "picture", 7);
-        Due.fault(x, "picturea", 0);
-        Due.fault(x, "picture album;picture sun;picture see", Due.NONE);
-        Due.fault(x, "thing comes;thing goes;thing passes;thing wears", Due.NONE);
-        Due.fault(x, "thing come", 6);
-        Due.fault(x, "thing picture", 6);
-        Due.fault(x, "thing", 5);
+        String told = "";
+        Due.fault(told, "", 0);
+        Due.fault(told, "   ", 3);
+        Due.fault(told, "album", Due.NONE);
+        Due.fault(told, "  album  ", Due.NONE);
+        Due.fault(told, " albums", 1);
+        Due.fault(told, " Album", 1);
+        Due.fault(told, "alb um", 0);
+        Due.fault(told, "elbum", 0);
+        Due.fault(told, "albun", 0);
+        Due.fault(told, "album;", 6);
+        Due.fault(told, "album ; ", 8);
+        Due.fault(told, "album;;album", 6);
+        Due.fault(told, ";album", 0);
+        Due.fault(told, "album album", 6);
+        Due.fault(told, "album\t", 5);
+        Due.fault(told, "album 7", 6);
+        Due.fault(told, "album" + (char) 0, 5);
+        Due.fault(told, "sun18 1 1;picture a;point0 0 0;point 0 24 9;long 0 000 099", Due.NONE);
+        Due.fault(told, "sun 18 1", 8);
+        Due.fault(told, "sun a 1 1", 4);
+        Due.fault(told, "sun 18 1 1 1", 11);
+        Due.fault(told, "sun 18,1 1", 6);
+        Due.fault(told, "picture a7", 9);
+        Due.fault(told, "picture 7", 8);
+        Due.fault(told, "picture A", 8);
+        Due.fault(told, "picture", 7);
+        Due.fault(told, "picturea", 0);
+        Due.fault(told, "picture album;picture sun;picture see", Due.NONE);
+        Due.fault(told, "thing comes;thing goes;thing passes;thing wears", Due.NONE);
+        Due.fault(told, "thing come", 6);
+        Due.fault(told, "thing picture", 6);
+        Due.fault(told, "thing", 5);
         String many = "album";
         for (int i = 1; i < 24; i++) many += ";album";
-        Due.fault(x, many, Due.NONE);
-        Due.fault(x, many + " ;album", 144);
-        Due.fault(x, many + ";", 143);
-        Due.fault(x, many + " album", 144);
+        Due.fault(told, many, Due.NONE);
+        Due.fault(told, many + " ;album", 144);
+        Due.fault(told, many + ";", 143);
+        Due.fault(told, many + " album", 144);
     }
 
     private static void faultAtTheEnd() {
-        AlbumHours x = Due.of("picture a;thing wears");
+        String told = "picture a;thing wears";
         String[] whole = {"sun 18 1 1", "point 0 1 1", "long 0 1 1", "see 0 0 1", "picture b", "thing goes"};
         for (String text : whole) {
-            Due.fault(x, text, Due.NONE);
+            Due.fault(told, text, Due.NONE);
             for (int end = text.lastIndexOf(' '); end > 0; end = text.lastIndexOf(' ', end - 1)) {
-                Due.fault(x, text.substring(0, end), end);
-                Due.fault(x, "album;" + text.substring(0, end) + "  ;", text.startsWith("point 0") && end > 5
+                Due.fault(told, text.substring(0, end), end);
+                Due.fault(told, "album;" + text.substring(0, end) + "  ;", text.startsWith("point 0") && end > 5
                         || text.startsWith("long 0") && end > 4 || text.startsWith("see 0") && end > 3 ? 6 + text.indexOf('0') : 8 + end);
             }
         }
     }
 
     private static void faultInBounds() {
-        AlbumHours x = new AlbumHours();
-        Due.fault(x, "sun 17 1 1", 4);
-        Due.fault(x, "sun 30 9 40", Due.NONE);
-        Due.fault(x, "sun 31 9 40", 4);
-        Due.fault(x, "sun 30 0 40", 7);
-        Due.fault(x, "sun 30 10 40", 7);
-        Due.fault(x, "sun 30 9 0", 9);
-        Due.fault(x, "sun 30 9 41", 9);
-        Due.fault(x, "sun 030 009 040", Due.NONE);
-        Due.fault(x, "sun 0030 9 40", 4);
-        Due.fault(x, "sun 30 9 99999999999", 9);
-        Due.fault(x, "picture abcde", Due.NONE);
-        Due.fault(x, "picture abcdef", 8);
-        Due.fault(x, "picture a;point 1 0 0", 16);
-        Due.fault(x, "picture a;point 0 24 9", Due.NONE);
-        Due.fault(x, "picture a;point 0 25 9", 18);
-        Due.fault(x, "picture a;point 0 24 10", 21);
-        Due.fault(x, "picture a;long 0 999 99", Due.NONE);
-        Due.fault(x, "picture a;long 0 1000 99", 17);
-        Due.fault(x, "picture a;long 0 999 100", 21);
-        Due.fault(x, "picture a;thing comes;see 0 0 1", Due.NONE);
-        Due.fault(x, "picture a;thing comes;see 0 0 2", 30);
-        Due.fault(x, "picture a;thing goes;see 0 0 2", 29);
-        Due.fault(x, "picture a;thing passes;see 0 0 2", 31);
-        Due.fault(x, "picture a;thing wears;see 0 0 9", Due.NONE);
-        Due.fault(x, "picture a;thing wears;see 0 0 10", 30);
-        Due.fault(x, "picture a;thing wears;see 0 1 0", 28);
-        Due.fault(x, "picture a;thing wears;see 1 0 0", 26);
-        Due.fault(x, "picture a;thing wears;see 0 0", 29);
+        String told = "";
+        Due.fault(told, "sun 17 1 1", 4);
+        Due.fault(told, "sun 30 9 40", Due.NONE);
+        Due.fault(told, "sun 31 9 40", 4);
+        Due.fault(told, "sun 30 0 40", 7);
+        Due.fault(told, "sun 30 10 40", 7);
+        Due.fault(told, "sun 30 9 0", 9);
+        Due.fault(told, "sun 30 9 41", 9);
+        Due.fault(told, "sun 030 009 040", Due.NONE);
+        Due.fault(told, "sun 0030 9 40", 4);
+        Due.fault(told, "sun 30 9 99999999999", 9);
+        Due.fault(told, "picture abcde", Due.NONE);
+        Due.fault(told, "picture abcdef", 8);
+        Due.fault(told, "picture a;point 1 0 0", 16);
+        Due.fault(told, "picture a;point 0 24 9", Due.NONE);
+        Due.fault(told, "picture a;point 0 25 9", 18);
+        Due.fault(told, "picture a;point 0 24 10", 21);
+        Due.fault(told, "picture a;long 0 999 99", Due.NONE);
+        Due.fault(told, "picture a;long 0 1000 99", 17);
+        Due.fault(told, "picture a;long 0 999 100", 21);
+        Due.fault(told, "picture a;thing comes;see 0 0 1", Due.NONE);
+        Due.fault(told, "picture a;thing comes;see 0 0 2", 30);
+        Due.fault(told, "picture a;thing goes;see 0 0 2", 29);
+        Due.fault(told, "picture a;thing passes;see 0 0 2", 31);
+        Due.fault(told, "picture a;thing wears;see 0 0 9", Due.NONE);
+        Due.fault(told, "picture a;thing wears;see 0 0 10", 30);
+        Due.fault(told, "picture a;thing wears;see 0 1 0", 28);
+        Due.fault(told, "picture a;thing wears;see 1 0 0", 26);
+        Due.fault(told, "picture a;thing wears;see 0 0", 29);
     }
 
     private static void faultByWhatIsTold() {
-        AlbumHours x = Due.of("picture a;thing wears");
-        Due.fault(x, "picture a", 8);
-        Due.fault(x, "picture b;picture b", 18);
-        Due.fault(x, "album;picture a", Due.NONE);
-        Due.fault(x, "see 0 0 9", Due.NONE);
-        Due.fault(x, "see 1 0 9;picture b", 4);
-        Due.fault(x, "picture b;see 1 0 9", Due.NONE);
-        Due.fault(x, "album;see 0 0 9", 10);
-        Due.fault(x, "album;picture c;see 0 0 9", 22);
-        Due.fault(x, "album;picture c;thing goes;see 0 0 9", 35);
-        Due.tell(x, "picture b;picture c;picture d;picture e;picture f;thing goes;thing goes;thing goes;thing goes");
-        Due.fault(x, "picture g;picture h", 10);
-        Due.fault(x, "thing goes; thing goes", 12);
-        Due.tell(x, "picture g;thing comes");
-        Due.fault(x, " picture", 1);
-        Due.fault(x, " picture a", 1);
-        Due.fault(x, "thing", 0);
-        Due.fault(x, "point 6 0 0;see 6 5 1", Due.NONE);
-        Due.fault(x, "album;picture g", Due.NONE);
+        String told = "picture a;thing wears";
+        Due.fault(told, "picture a", 8);
+        Due.fault(told, "picture b;picture b", 18);
+        Due.fault(told, "album;picture a", Due.NONE);
+        Due.fault(told, "see 0 0 9", Due.NONE);
+        Due.fault(told, "see 1 0 9;picture b", 4);
+        Due.fault(told, "picture b;see 1 0 9", Due.NONE);
+        Due.fault(told, "album;see 0 0 9", 10);
+        Due.fault(told, "album;picture c;see 0 0 9", 22);
+        Due.fault(told, "album;picture c;thing goes;see 0 0 9", 35);
+        told += ";picture b;picture c;picture d;picture e;picture f;thing goes;thing goes;thing goes;thing goes";
+        Due.fault(told, "picture g;picture h", 10);
+        Due.fault(told, "thing goes; thing goes", 12);
+        told += ";picture g;thing comes";
+        Due.fault(told, " picture", 1);
+        Due.fault(told, " picture a", 1);
+        Due.fault(told, "thing", 0);
+        Due.fault(told, "point 6 0 0;see 6 5 1", Due.NONE);
+        Due.fault(told, "album;picture g", Due.NONE);
+        AlbumHours x = Due.of(told);
+        Due.write(x, "album;picture g");
+        x.fault();
         Due.is("4: fault() changes nothing", x.count(0), 7);
     }
 
