@@ -455,7 +455,13 @@ public final class DoneBoundsTest {
         for (int p = 0; p < 7; p++) for (int t = 0; t < 6; t++) x.see(p, t, 1);
         x.keep(1);
         Due.row("18: none, all, none", "0 -1 42 41 0", x.back(0), x.told(0, 0), x.back(1), x.piece(6, 7, 2), x.back(0));
-        Due.row("18: the orders, too", "5040 42 5040", x.orders(), x.back(1), x.orders());
+        x.see(3, 0, 0);
+        x.keep(1);
+        Due.row("18: the orders, too", "5040 1 5040 0 5040 1", x.orders(), x.back(1), x.orders(), x.back(0), x.orders(), x.back(1));
+        x.see(4, 0, 1);
+        x.keep(1);
+        Due.row("18: and who is before whom", "2520 1 0 5040 0 2 2520 1", x.orders(), x.before(3, 4), x.back(0), x.orders(), x.before(3, 4), x.back(1), x.orders(),
+                x.before(3, 4));
     }
 
     /** Since the last text: one that was done; one with a FAULT is not, nor is one that is not yet done. */

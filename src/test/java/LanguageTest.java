@@ -1,3 +1,6 @@
+import java.io.File;
+import java.io.PrintWriter;
+import java.io.StringWriter;
 import java.lang.reflect.Field;
 import java.lang.reflect.Method;
 import java.lang.reflect.Modifier;
@@ -5,12 +8,15 @@ import java.nio.file.Files;
 import java.nio.file.Path;
 import java.util.ArrayList;
 import java.util.Arrays;
+import java.util.HashMap;
 import java.util.HashSet;
 import java.util.List;
+import java.util.Map;
 import java.util.Set;
 import java.util.TreeSet;
 import java.util.regex.Matcher;
 import java.util.regex.Pattern;
+import java.util.spi.ToolProvider;
 
 /** The rules of ../shared/LANGUAGE.md, as far as they can be seen from the source and from the class; run in the project's folder. */
 public final class LanguageTest {
@@ -30,6 +36,7 @@ public final class LanguageTest {
         words(source);
         library(source);
         shortMethods(source);
+        depth();
         Due.end();
     }
 
@@ -134,5 +141,63 @@ public final class LanguageTest {
 
     private static boolean method(String line) {
         return line.matches(" {4,8}[\\w].*\\) \\{");
+    }
+
+    private static String disassembled() throws Exception {
+        File folder = new File(AlbumHours.class.getProtectionDomain().getCodeSource().getLocation().toURI());
+        List<String> arguments = new ArrayList<>(List.of("-p", "-c"));
+        for (String file : folder.list()) {
+            if (file.matches("AlbumHours(\\$.*)?\\.class")) arguments.add(new File(folder, file).getPath());
+        }
+        StringWriter told = new StringWriter();
+        PrintWriter out = new PrintWriter(told);
+        ToolProvider.findFirst("javap").orElseThrow().run(out, out, arguments.toArray(new String[0]));
+        return told.toString();
+    }
+
+    /** What each method calls, by the program as it is compiled: the library's methods, too. */
+    private static Map<String, Set<String>> calls() throws Exception {
+        Map<String, Set<String>> calls = new HashMap<>();
+        Pattern head = Pattern.compile("\\S.*\\bclass (\\S+) .*|class (\\S+) .*");
+        Pattern begin = Pattern.compile("  (?:\\S.* )?([\\w$.]+)\\(.*\\);");
+        Pattern call = Pattern.compile(".*invoke\\w+ .*// (?:Interface)?Method ([^:]+):.*");
+        String inClass = "";
+        String method = "";
+        for (String line : disassembled().split("\\R")) {
+            Matcher h = head.matcher(line);
+            Matcher b = begin.matcher(line);
+            Matcher c = call.matcher(line);
+            if (h.matches()) inClass = h.group(1) != null ? h.group(1) : h.group(2);
+            if (b.matches()) {
+                method = inClass + "." + (b.group(1).equals(inClass) ? "<init>" : b.group(1));
+                calls.putIfAbsent(method, new TreeSet<>());
+            }
+            if (!c.matches()) continue;
+            String called = c.group(1).replace("\"", "");
+            calls.get(method).add(called.contains(".") ? called : inClass + "." + called);
+        }
+        return calls;
+    }
+
+    private static int depth(Map<String, Set<String>> calls, String method, Set<String> open) {
+        if (!open.add(method)) return 1000;
+        int most = 0;
+        for (String called : calls.getOrDefault(method, Set.of())) most = Math.max(most, depth(calls, called, open));
+        open.remove(method);
+        return 1 + most;
+    }
+
+    private static void depth() throws Exception {
+        if (ToolProvider.findFirst("javap").isEmpty()) {
+            System.out.println("javap is not here: how deep the calls go is not looked at");
+            return;
+        }
+        Map<String, Set<String>> calls = calls();
+        for (String s : FACE.split(" ")) {
+            String method = "AlbumHours." + s.substring(0, s.indexOf('('));
+            no("the calls of " + method + " are not known", !calls.containsKey(method));
+            int depth = depth(calls, method, new HashSet<>());
+            no("rules 8, 11: " + method + " goes " + depth + " calls deep", depth > 8);
+        }
     }
 }

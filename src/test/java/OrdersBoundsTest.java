@@ -22,6 +22,8 @@ public final class OrdersBoundsTest {
         ordersInAsManySlots();
         ordersInALaterSlot();
         ordersAtTheDaysEnd();
+        toTheLastSlot();
+        fromTheFirstSlot();
         ordersAtTheDaysBeginning();
         noneNotThereBetween();
         passesOverSeven();
@@ -36,6 +38,7 @@ public final class OrdersBoundsTest {
         refusedPlace();
         oftenOfSeven();
         oftenAlwaysNever();
+        oftenBesideWhatPasses();
         oftenWithoutOrders();
         refusedOften();
         leftAll();
@@ -206,6 +209,34 @@ public final class OrdersBoundsTest {
         Due.row("24: the others, not at that slot", "47 0 47", x.left(1, 0), x.left(1, 1), x.left(1, 2));
     }
 
+    /** THE DAY has SLOTS 0 .. 47: a row that ends in the last one; one picture more cannot be behind it. */
+    private static void toTheLastSlot() {
+        AlbumHours x = Due.of("sun 30 1 1;" + SEVEN + ";thing wears;point 0 24 0");
+        for (int p = 0; p < 6; p++) x.see(p, 0, p);
+        x.see(6, 0, 0);
+        Due.row("20: six to the last slot, the seventh ahead of them or beside the first", "1 6 0 1", x.orders(), x.order(0, 0), x.order(0, 1), x.order(0, 2));
+        for (int p = 0; p < 6; p++) {
+            Due.row("22, 24: " + p, (p + 1) + " " + (p + 1) + " 1 " + (42 + p), x.place(p, 0), x.place(p, 1), x.left(p, 0), x.left(p, 2));
+        }
+        Due.row("24: the seventh", "42 0 41", x.left(6, 0), x.left(6, 1), x.left(6, 2));
+        Due.row("25: no knot", "-1 0", x.knot(0), x.loose(-1));
+        x.see(6, 0, 9);
+        Due.row("20: the seventh behind them", "0 -4 0 127 7", x.orders(), x.place(0, 0), x.left(0, 0), x.knot(0), x.knot(1));
+        Due.row("26: each of the eight pieces is one too many", "8 0 7", x.loose(-1), x.loose(0), x.loose(7));
+        x.point(0, 23, 0);
+        Due.row("20: a slot earlier", "1 47 41", x.orders(), x.left(6, 2), x.left(0, 1));
+    }
+
+    /** The first slot: nobody is ahead of it. */
+    private static void fromTheFirstSlot() {
+        AlbumHours x = Due.of("sun 18 1 1;" + SEVEN + ";thing wears;point 6 0 0");
+        for (int p = 0; p < 7; p++) x.see(p, 0, p);
+        for (int p = 0; p < 7; p++) Due.row("24: " + p, "1 " + p, x.left(p, 0), x.left(p, 1));
+        Due.row("20: one", "1 0 6", x.orders(), x.place(0, 0), x.place(6, 1));
+        x.point(6, 1, 0);
+        for (int p = 0; p < 6; p++) Due.row("24: a slot later, " + p, "2 " + p + " " + (p + 1), x.left(p, 0), x.left(p, 1), x.left(p, 2));
+    }
+
     /** SLOTS from 0: six ahead of a shadow's earliest one. */
     private static void ordersAtTheDaysBeginning() {
         AlbumHours x = Due.of("sun 18 1 1;" + SEVEN + ";point 0 0 0");
@@ -252,6 +283,8 @@ public final class OrdersBoundsTest {
         Due.orders(x, "012 210");
         Due.tell(x, "thing passes;see 0 2 1;see 1 2 0;see 2 2 1");
         Due.orders(x, "");
+        Due.tell(x, "album;picture a;picture b;picture c");
+        Due.is("20: of a new album, in which nothing passes", x.orders(), 6);
     }
 
     /** The first by numbers ahead (PICTURE by PICTURE). */
@@ -341,6 +374,17 @@ public final class OrdersBoundsTest {
         Due.row("23: by slots", "1 1", y.often(0, 1), y.often(1, 0));
         y.point(1, 6, 0);
         Due.row("23: by slots, always and never", "1 0", y.often(0, 1), y.often(1, 0));
+    }
+
+    /** In how many of the ORDERS, not of all rows. */
+    private static void oftenBesideWhatPasses() {
+        AlbumHours x = Due.of("picture a;picture b;picture c;thing passes;see 0 0 1;see 1 0 0;see 2 0 1");
+        Due.row("23: what passes", "4 2 2 2 2 2 2", x.orders(), x.often(0, 1), x.often(1, 0), x.often(0, 2), x.often(2, 0), x.often(1, 2), x.often(2, 1));
+        Due.row("27: beside it", "4 4 6", x.would(0, 0, 3), x.would(1, 2, 0), x.would(1, 2, 1));
+        x.point(0, 3, 0);
+        x.point(1, 4, 0);
+        x.point(2, 5, 0);
+        Due.row("26: of it, of the slots", "6 0 5", x.loose(-1), x.loose(0), x.loose(5));
     }
 
     private static void oftenWithoutOrders() {

@@ -489,7 +489,8 @@ public final class TextBoundsTest {
 
     private static void findNone() {
         String told = "picture a;picture abcde";
-        String[] none = {"", " ", "b", "ab", "abcd", "abcdef", "abcdeabcde", "aa", "A", "a;", "a" + (char) 0, "a" + (char) 160, "1", "`", "{"};
+        String[] none = {"", " ", "b", "ab", "abcd", "abcdef", "abcdeabcde", "aa", "A", "a;", "a" + (char) 0, "a" + (char) 160, "1", "`", "{", "`a", "``a", "a`", "{a",
+            "aaaaaaabcde", "a`abcde", "aabcde", "abcde`", "@a"};
         for (String text : none) Due.is("6: find() of '" + text + "'", found(told, text), Due.NONE);
         Due.is("6: of 200 blanks", found(told, blanks(200)), Due.NONE);
         Due.is("6: of 200 letters", found(told, "a".repeat(200)), Due.NONE);
