@@ -9,6 +9,7 @@ public final class DayBoundsTest {
 
     public static void main(String[] args) {
         newObject();
+        besideAnother();
         slots();
         sunAtFirst();
         upTwelveFromNoon();
@@ -53,6 +54,25 @@ public final class DayBoundsTest {
         for (int s = 0; s < 3; s++) Due.row("1: a missing strip", "-11 -11 -11 -11 -11", x.set(s, 0, 0), x.work(s, 0, 0, 0), x.bits(s, 0), x.sum(s), x.drop(s));
         Due.row("1: no picture to load, the latest", "-2 0", x.load(0, 0, 0, 0), x.latest());
         Due.row("1: no pieces are kept, and come back", "0 0", x.keep(1), x.back(1));
+    }
+
+    /** AlbumHours(): also beside one to which much was told, and that one stays as it was. */
+    private static void besideAnother() {
+        AlbumHours x = Due.of("sun 20 3 7;picture a;picture b;thing comes;see 0 0 0;see 1 0 1");
+        x.keep(0);
+        x.point(0, 3, 1);
+        x.strip(0, 2);
+        x.set(0, 1, 5);
+        x.sum(0);
+        Due.write(x, "b");
+        newObject();
+        AlbumHours y = Due.of("picture q;thing wears;point 0 1 1");
+        y.keep(0);
+        y.strip(0, 8);
+        y.erase();
+        Due.row("1: what was told to the first", "2 1 3 1 20 3 7 2 1 1", x.count(0), x.count(1), x.count(2), x.count(3), x.count(4), x.count(5), x.count(6),
+                x.count(7), x.count(8), x.count(9));
+        Due.row("1: what it finds", "1 1 5 1 2 0", x.find(), x.orders(), x.latest(), x.before(0, 1), x.back(0), x.piece(0, 2, 0));
     }
 
     /** THE DAY has SLOTS 0 .. 47. */

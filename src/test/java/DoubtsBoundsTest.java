@@ -34,7 +34,10 @@ public final class DoubtsBoundsTest {
         askLessThanThereAre();
         askTheGreaterOfTwo();
         askOfLikeOnes();
+        askOfLikeOnesByOne();
+        askPictureAheadOfMatter();
         askNotWhatWears();
+        askWhatPasses();
         askNotWhatIsTold();
         askTheLastOfAll();
         askAllTold();
@@ -350,6 +353,34 @@ public final class DoubtsBoundsTest {
         y.see(6, 1, 1);
         y.see(0, 1, 0);
         Due.row("28: one of less worth, though a greater picture", "1", y.ask(0) / 10);
+    }
+
+    /** Of like ones the least, the value 1 making the WORTH: picture 3 of 3 and 4, matter 2 of 2 and 3. */
+    private static void askOfLikeOnesByOne() {
+        AlbumHours x = Due.of("picture a;picture b;picture c;picture d;picture e;thing comes;thing comes;see 0 0 0;see 1 0 1;see 2 0 1");
+        Due.row("28: by 0, by 1", "40 20 30 20 30", x.orders(), x.would(3, 2, 0), x.would(3, 2, 1), x.would(4, 2, 0), x.would(4, 2, 1));
+        ask("the least picture", x, 32, 30);
+        Due.tell(x, "see 0 1 0;see 1 1 1;see 2 1 1");
+        Due.row("28: by 0, by 1", "40 20 30 20 30", x.orders(), x.would(3, 3, 0), x.would(3, 3, 1), x.would(4, 3, 0), x.would(4, 3, 1));
+        ask("the least matter", x, 32, 30);
+    }
+
+    /** The least PICTURE, then the least MATTER: picture 1 with matter 3, not picture 2 with matter 2. */
+    private static void askPictureAheadOfMatter() {
+        AlbumHours x = Due.of("picture a;picture b;picture c;picture d;picture e;thing comes;thing comes",
+                "see 0 0 0;see 3 0 0;see 1 0 1;see 0 1 0;see 4 1 0;see 2 1 1");
+        Due.row("28: pictures 1, 2", "16 8 14 8 14", x.orders(), x.would(1, 3, 0), x.would(1, 3, 1), x.would(2, 2, 0), x.would(2, 2, 1));
+        Due.row("28: pictures 3, 4", "14 6 14 6", x.would(3, 3, 0), x.would(3, 3, 1), x.would(4, 2, 0), x.would(4, 2, 1));
+        ask("of four alike", x, 13, 14);
+    }
+
+    /** With THINGS that do not WEAR: what PASSES, too. */
+    private static void askWhatPasses() {
+        AlbumHours x = Due.of("picture a;picture b;picture c;picture d;thing wears;thing passes;see 0 1 1;see 1 1 1;see 2 1 0");
+        Due.row("28: it passes", "16 12 12", x.orders(), x.would(3, 3, 0), x.would(3, 3, 1));
+        ask("it passes", x, 33, 12);
+        x.see(3, 1, 1);
+        ask("all told", x, -1, -1);
     }
 
     /** With THINGS that do not WEAR. */

@@ -1,3 +1,6 @@
+import java.util.ArrayList;
+import java.util.List;
+
 /**
  * Promises 19 to 24 and the document's sentences on AHEAD, BEFORE, ORDERS and LEFT, each at its bounds: the bound, one
  * below, one above; nothing told yet, as much as can be told. The sentence stands above its test.
@@ -29,11 +32,14 @@ public final class OrdersBoundsTest {
         passesOverSeven();
         passesWhereNothingIsTold();
         twoThatPass();
+        eachOfSixThatPasses();
         orderByNumbers();
+        eachOrderOfOneToSeven();
         orderBeyond();
         refusedOrder();
         placesOfOne();
         placesOfSeven();
+        placesWithAGap();
         placesWithoutOrders();
         refusedPlace();
         oftenOfSeven();
@@ -46,6 +52,7 @@ public final class OrdersBoundsTest {
         leftOneEach();
         leftNone();
         leftByWindowAlone();
+        leftBesideWhatPasses();
         refusedLeft();
         Due.end();
     }
@@ -287,6 +294,21 @@ public final class OrdersBoundsTest {
         Due.is("20: of a new album, in which nothing passes", x.orders(), 6);
     }
 
+    /** A THING that PASSES: whichever of the six it is, the others being of another kind, of the same one. */
+    private static void eachOfSixThatPasses() {
+        String[] others = {"thing comes", "thing goes", "thing passes", "thing wears"};
+        for (String other : others) {
+            for (int t = 0; t < 6; t++) {
+                AlbumHours x = Due.of("picture a;picture b;picture c");
+                for (int i = 0; i < 6; i++) Due.tell(x, i == t ? "thing passes" : other);
+                x.see(0, t, 1);
+                x.see(1, t, 0);
+                x.see(2, t, 1);
+                Due.orders(x, "021 102 120 201");
+            }
+        }
+    }
+
     /** The first by numbers ahead (PICTURE by PICTURE). */
     private static void orderByNumbers() {
         Due.orders(Due.of("picture a;picture b;picture c"), "012 021 102 120 201 210");
@@ -297,6 +319,39 @@ public final class OrdersBoundsTest {
         Due.row("21: the second, the last but one", "6 5 0 1", x.order(1, 5), x.order(1, 6), x.order(5038, 5), x.order(5038, 6));
         Due.row("21: the last with 0 first, the first with 1", "0 6 1 1 0 6", x.order(719, 0), x.order(719, 1), x.order(719, 6), x.order(720, 0),
                 x.order(720, 1), x.order(720, 6));
+    }
+
+    /** The k-th of all rows of n pictures, by numbers. */
+    private static String rowAt(int k, int n) {
+        List<Integer> rest = new ArrayList<>();
+        int rows = 1;
+        for (int p = 0; p < n; p++) {
+            rest.add(p);
+            rows *= p + 1;
+        }
+        StringBuilder row = new StringBuilder();
+        int behind = k;
+        for (int i = 0; i < n; i++) {
+            rows /= n - i;
+            row.append(i > 0 ? " " : "").append(rest.remove(behind / rows));
+            behind %= rows;
+        }
+        return row.toString();
+    }
+
+    /** The first by numbers ahead: each one of all, each place; on a new object every 20 orders, for one answers 512 calls only. */
+    private static void eachOrderOfOneToSeven() {
+        int all = 1;
+        for (int n = 1; n <= 7; n++) {
+            all *= n;
+            AlbumHours x = null;
+            for (int k = 0; k < all; k++) {
+                if (k % 20 == 0) x = Due.of(SEVEN.substring(0, 10 * n - 1));
+                long[] found = new long[n];
+                for (int i = 0; i < n; i++) found[i] = x.order(k, i);
+                Due.row("21: order " + k + " of " + n + " pictures", rowAt(k, n), found);
+            }
+        }
     }
 
     /** NONE: there is no such ORDER, no such place. */
@@ -335,6 +390,16 @@ public final class OrdersBoundsTest {
         y.strike(6, 2);
         for (int p = 0; p < 6; p++) Due.row("22: one of them anywhere", p + " " + (p + 1), y.place(p, 0), y.place(p, 1));
         Due.row("22: that one", "0 6", y.place(6, 0), y.place(6, 1));
+    }
+
+    /** The least place, the greatest: though it has none between them. */
+    private static void placesWithAGap() {
+        AlbumHours x = Due.of("picture a;picture b;picture c;thing passes;see 0 0 1;see 1 0 0;see 2 0 1");
+        Due.row("22: first or last of three", "0 2 0 2 0 2", x.place(1, 0), x.place(1, 1), x.place(0, 0), x.place(0, 1), x.place(2, 0), x.place(2, 1));
+        AlbumHours y = Due.of(SEVEN + ";thing passes");
+        for (int p = 0; p < 7; p++) y.see(p, 0, p == 3 ? 0 : 1);
+        Due.row("22: first or last of seven", "1440 0 6", y.orders(), y.place(3, 0), y.place(3, 1));
+        for (int p = 0; p < 7; p++) if (p != 3) Due.row("22: the others", "0 6", y.place(p, 0), y.place(p, 1));
     }
 
     /** NOT: there are no ORDERS; behind UNKNOWN, OUTSIDE. */
@@ -455,6 +520,15 @@ public final class OrdersBoundsTest {
         left("the other's slot is between", x, 0, 9, 12, 21);
         x.point(1, 10, 0);
         left("the other's slot is beyond", x, 0, 10, 12, 21);
+    }
+
+    /** In some of the ORDERS: ahead of two between which it cannot stand, and behind them. */
+    private static void leftBesideWhatPasses() {
+        AlbumHours x = Due.of("picture a;picture b;picture c;thing passes;see 0 0 1;see 1 0 0;see 2 0 1;point 0 0 0;point 2 24 0");
+        Due.row("20: ahead of both, behind both", "2 0 2", x.orders(), x.place(1, 0), x.place(1, 1));
+        left("slots 0 to 11, 37 to 47", x, 1, 23, 0, 47);
+        x.strike(1, 2);
+        left("between them, too", x, 1, 46, 0, 47);
     }
 
     private static void refusedLeft() {

@@ -98,6 +98,14 @@ public final class TextBoundsTest {
         Due.fault("", ";".repeat(200), 0);
         Due.fault("", "sun 18 1 1" + blanks(187) + "sun", 197);
         Due.fault("", blanks(191) + "picture q", Due.NONE);
+        for (int at = 0; at <= 200; at++) lookingChangesNothing(at);
+    }
+
+    /** Where ever the FAULT is, the text stays as it is: asked twice it answers alike. */
+    private static void lookingChangesNothing(int at) {
+        AlbumHours x = new AlbumHours();
+        Due.write(x, blanks(at) + (at < 200 ? "q" : "") + blanks(Math.max(0, 199 - at)));
+        Due.row("4: a fault at " + at, at + " " + at + " 200 -4 200 " + at, x.fault(), x.fault(), x.count(9), x.album(), x.count(9), x.fault());
     }
 
     /** THE TEXT is empty: how many letters it had. */
